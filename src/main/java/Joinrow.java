@@ -236,8 +236,11 @@ public final class Joinrow {
 
     public boolean isSound() {
         for (int i = 0; i < joiners.length; i++) {
+            if (!tellsItsLength(joiners[i]) || !isKeptByUnfilled(joiners[i])) {
+                return false;
+            }
             for (int j = 0; j < joiners.length; j++) {
-                if (!isPairSound(joiners[i], joiners[j])) {
+                if (!isMergedAlike(joiners[i], joiners[j]) || !isLaidBehind(joiners[i], joiners[j])) {
                     return false;
                 }
             }
@@ -359,13 +362,6 @@ public final class Joinrow {
             }
         }
         return pairs;
-    }
-
-    private boolean isPairSound(Joiner first, Joiner second) {
-        return tellsItsLength(first) && tellsItsLength(second)
-            && isMergedAlike(first, second)
-            && isKeptByUnfilled(first)
-            && isLaidBehind(first, second);
     }
 
     private boolean tellsItsLength(Joiner joiner) {
@@ -544,7 +540,6 @@ public final class Joinrow {
             prefix = newPrefix;
             suffix = newSuffix;
             inside.wipe();
-            emptyText.wipe();
             isFilled = false;
             hasEmptyText = false;
         }

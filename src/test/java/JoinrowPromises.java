@@ -562,6 +562,9 @@ public final class JoinrowPromises {
         x.empty(0, 59);
         due("compare(0, 1) of opq and ab", 1, () -> x.compare(0, 1));
         due("compare(1, 0) of ab and opq", -1, () -> x.compare(1, 0));
+        x.empty(0, 5);
+        due("compare(0, 1) of b and ab", 1, () -> x.compare(0, 1));
+        due("compare(1, 0) of ab and b", -1, () -> x.compare(1, 0));
         x.empty(0, 0);
         due("compare(0, 2) of nothing", -1, () -> x.compare(0, 2));
         due("compare(2, 0) of nothing", 1, () -> x.compare(2, 0));
@@ -588,6 +591,11 @@ public final class JoinrowPromises {
         x.add(3, 0);
         due("would(2, 3)", 2, () -> x.would(2, 3));
         due("would(3, 3)", 3, () -> x.would(3, 3));
+        x.beginWith(5, 60, 69, 0);
+        due("would(5, 0) with a prefix alone", 7, () -> x.would(5, 0));
+        x.beginWith(5, 60, 0, 68);
+        due("would(5, 0) with a suffix alone", 5, () -> x.would(5, 0));
+        x.beginWith(5, 60, 64, 65);
         fill(4, 75);
         due("would(4, 4)", 600, () -> x.would(4, 4));
         due("would(1, 4)", 304, () -> x.would(1, 4));
@@ -687,5 +695,38 @@ public final class JoinrowPromises {
         due("digest() again", want, () -> x.digest());
         x.knock();
         due("digest() changes with a knock", false, () -> x.digest() == want);
+        digestOfMany();
+    }
+
+    private static void digestOfMany() {
+        x.mergeNothing(0);
+        x.add(0, 1);
+        x.add(0, 1);
+        x.add(0, 2);
+        x.empty(1, 1);
+        x.beginWith(2, 62, 69, 68);
+        x.add(2, 1);
+        x.add(2, 60);
+        fill(3, 75);
+        x.emptyText(4, 0);
+        long d = 7776;
+        for (int what = 0; what < 4; what++) {
+            d = d * 31 + x.house(what);
+        }
+        for (int i = 0; i < 6; i++) {
+            d = d * 31 + x.length(i);
+            d = d * 31 + x.hash(i);
+            d = d * 31 + x.find(i, 1, false);
+            d = d * 31 + x.find(i, 1, true);
+            d = d * 31 + x.find(i, 60, false);
+            d = d * 31 + x.find(i, 60, true);
+        }
+        for (int i = 0; i < 6; i++) {
+            for (int j = i + 1; j < 6; j++) {
+                d = d * 31 + x.compare(i, j);
+                d = d * 31 + x.would(i, j);
+            }
+        }
+        due("digest() of many", d * 31 + 1, () -> x.digest());
     }
 }
